@@ -31,8 +31,8 @@ public final class SkinBox {
     private static final int MOST_HEIGHT = 100;
     private static final int MOST_ROUNDS = 50;
 
-    private final Cells cells = new Cells();
-    private final Flow flow = new Flow(cells);
+    private final Flow flow = new Flow();
+    private final Cells cells = flow.cells;
     private final Points points = new Points();
     private long asked = 0;
 
@@ -390,7 +390,7 @@ public final class SkinBox {
         private static final int UNSEEN = -1;
         private static final int SPRING = SIDES;
 
-        private final Cells cells;
+        final Cells cells = new Cells();
         private final int[] springs = new int[MOST_CELLS];
         private final int[] drains = new int[MOST_CELLS];
         // By CELL and side: how much more may pass from the CELL to the one beyond.
@@ -398,15 +398,12 @@ public final class SkinBox {
         private final int[] cameFrom = new int[MOST_CELLS];
         private final int[] cameBy = new int[MOST_CELLS];
         private final int[] queue = new int[MOST_CELLS];
+        private int queued = 0;
         private boolean settled = false;
         private int settledRise = 0;
         long amount = 0;
         long lowest = 0;
         long highest = 0;
-
-        Flow(Cells cells) {
-            this.cells = cells;
-        }
 
         void forget() {
             settled = false;
@@ -460,8 +457,8 @@ public final class SkinBox {
 
         /** Goes from the springs wherever more may pass, to the first CELL that still drains. */
         private int search() {
-            int tail = startAt(springs);
-            for (int head = 0; head < tail; head++) {
+            startAt(springs);
+            for (int head = 0; head < MOST_CELLS && head < queued; head++) {
                 int cell = queue[head];
                 if (drains[cell] > 0) {
                     return cell;
@@ -470,8 +467,7 @@ public final class SkinBox {
                     int other = cells.beyond[cell * SIDES + side];
                     if (other != OUTSIDE && cameBy[other] == UNSEEN && passes[cell * SIDES + side] > 0) {
                         cameFrom[other] = cell;
-                        cameBy[other] = side;
-                        queue[tail++] = other;
+                        see(other, side);
                     }
                 }
             }
@@ -480,29 +476,33 @@ public final class SkinBox {
 
         /** Sees all CELLS from which more may still pass to one that drains. */
         private void searchBack() {
-            int tail = startAt(drains);
-            for (int head = 0; head < tail; head++) {
+            startAt(drains);
+            for (int head = 0; head < MOST_CELLS && head < queued; head++) {
                 int cell = queue[head];
                 for (int side = 0; side < SIDES; side++) {
                     int other = cells.beyond[cell * SIDES + side];
                     if (other != OUTSIDE && cameBy[other] == UNSEEN && passes[other * SIDES + (side ^ 1)] > 0) {
-                        cameBy[other] = side;
-                        queue[tail++] = other;
+                        see(other, side);
                     }
                 }
             }
         }
 
-        private int startAt(int[] open) {
-            int tail = 0;
+        private void startAt(int[] open) {
+            queued = 0;
             for (int cell = 0; cell < cells.size; cell++) {
                 cameBy[cell] = UNSEEN;
                 if (open[cell] > 0) {
-                    cameBy[cell] = SPRING;
-                    queue[tail++] = cell;
+                    see(cell, SPRING);
                 }
             }
-            return tail;
+        }
+
+        private void see(int cell, int by) {
+            cameBy[cell] = by;
+            if (queued < MOST_CELLS) {
+                queue[queued++] = cell;
+            }
         }
 
         private long seen() {

@@ -1,91 +1,71 @@
-import java.util.Arrays;
 import java.util.Random;
 
-/** Any calls with any numbers in any state: none throws, and one that is refused changes nothing. */
+/**
+ * Any calls with any numbers in any state, as many as an object may be used for: none throws, and each
+ * answers what a second writing of the document says, so one that is refused has changed nothing.
+ */
 public final class AnyCallTest {
-    private static final int[] NUMBERS = {0, 1, 2, 3, 4, 5, 6, 7, 8, 9, 10, 12, 35, 36, 37, 50, 51, 60, 61, 63, 64,
-        100, 101, -1, -2, -20, -21, -60, -61, -100, -101, 1 << 16, 1 << 30, Integer.MAX_VALUE, Integer.MIN_VALUE};
-    private static int wrong = 0;
+    private static final int MOST_CALLS = 512;
+    private static final int[] FAR = {Integer.MIN_VALUE, Integer.MIN_VALUE + 1, Integer.MAX_VALUE, 1 << 16, 1 << 30,
+        -1, 256, 1000000, -1000000, 64, 63};
+    // A name stands here as often as it shall be called, so that boxes and nets are used for a while.
+    private static final String[] NAMES = ("box net hold hold hold hold hold price price price price price set set set "
+            + "cost cost skin all right least film film room room many many lift lift lift lift lift lift pin pin "
+            + "height drawn slack rounds rounds count count trace").split(" ");
 
-    private static int number(Random random) {
-        return random.nextInt(3) == 0 ? NUMBERS[random.nextInt(NUMBERS.length)] : random.nextInt(5);
-    }
-
-    private static long set(Random random) {
-        long bits = random.nextLong();
-        return random.nextInt(4) == 0 ? bits : bits >>> 28 + random.nextInt(36);
-    }
-
-    private static long call(SkinBox s, int which, int a, int b, int c, long set) {
-        switch (which) {
-            case 0: return s.box(a, b, c);
-            case 1: return s.hold(a, b);
-            case 2: return s.price(a, b);
-            case 3: return s.set(a, b);
-            case 4: return s.cost(a, b, c);
-            case 5: return s.skin(set);
-            case 6: return s.all(set);
-            case 7: return s.right(set);
-            case 8: return s.film(a);
-            case 9: return s.room(a, b);
-            case 10: return s.many();
-            case 11: return s.net(a, b);
-            case 12: return s.lift(a, b, c);
-            case 13: return s.pin(a, b, c > 0);
-            case 14: return s.height(a, b);
-            case 15: return s.rounds(a);
-            default: return s.count(a);
+    /** Mostly from the numbers that are taken, else at their ends, one beyond them, or far away. */
+    private static int near(Random random, int low, int high) {
+        int turn = random.nextInt(100);
+        if (turn < 90) {
+            return low + random.nextInt(high - low + 1);
         }
+        if (turn < 98) {
+            int[] ends = {low, high, low - 1, high + 1};
+            return ends[turn % 4];
+        }
+        return FAR[random.nextInt(FAR.length)];
     }
 
-    private static boolean isRefusal(int which, long answer) {
-        boolean bySign = which == 2 || which == 6 || which == 12 || which == 14;
-        return bySign ? answer == SkinBox.NO : answer < 0;
+    private static long set(Random random, int cells) {
+        long every = (1L << cells) - 1;
+        long[] ends = {0, every, every + 1, -1, Long.MIN_VALUE, Long.MAX_VALUE, -every, random.nextLong()};
+        return random.nextInt(10) == 0 ? ends[random.nextInt(ends.length)] : random.nextLong() & every;
     }
 
-    private static long[] state(SkinBox s) {
-        long[] state = new long[18 + 64];
-        for (int what = 0; what < 8; what++) {
-            state[what] = s.count(what);
+    private static Call anyCall(Random random, int cells) {
+        String name = NAMES[random.nextInt(NAMES.length)];
+        int cell = near(random, 0, cells - 1);
+        switch (name) {
+            case "box": return Call.of(name, near(random, 1, 4), near(random, 1, 4), near(random, 1, 4));
+            case "hold": return Call.of(name, cell, near(random, 0, 2));
+            case "price": return Call.of(name, cell, near(random, -20, 20));
+            case "set": return Call.of(name, near(random, 0, 6), near(random, 0, 9));
+            case "cost": return Call.of(name, near(random, 0, 2), cell, cell + near(random, -4, 4));
+            case "skin":
+            case "all":
+            case "right": return Call.ofSet(name, set(random, cells));
+            case "film": return Call.of(name, near(random, 0, 1));
+            case "room": return Call.of(name, near(random, -60, 60) / (1 + random.nextInt(8)), near(random, 0, 1));
+            case "net": return Call.of(name, near(random, 2, 8), near(random, 2, 8));
+            case "lift": return Call.of(name, near(random, 0, 4), near(random, 0, 4), near(random, -100, 100));
+            case "pin": return Call.ofPin(near(random, 0, 4), near(random, 0, 4), random.nextBoolean());
+            case "height": return Call.of(name, near(random, 0, 4), near(random, 0, 4));
+            case "rounds": return Call.of(name, near(random, 1, 50) / (1 + random.nextInt(40)));
+            case "count": return Call.of(name, near(random, 0, 7));
+            default: return Call.of(name);
         }
-        long every = (1L << state[0] * state[1] * state[2]) - 1;
-        state[8] = s.least();
-        state[9] = s.film(0);
-        state[10] = s.film(1);
-        state[11] = s.drawn();
-        state[12] = s.slack();
-        state[13] = s.trace();
-        state[14] = s.all(every);
-        state[15] = s.all(every & 0x555555555L);
-        state[16] = s.skin(every & 0x333333333L);
-        state[17] = s.room(-3, 1);
-        for (int i = 0; i < 64; i++) {
-            state[18 + i] = s.height(i % 8, i / 8);
-        }
-        return state;
     }
 
     public static void main(String[] args) {
         Random random = new Random(22);
-        for (int run = 0; run < 300; run++) {
+        for (int run = 0; run < 120; run++) {
             SkinBox s = new SkinBox();
-            for (int turn = 0; turn < 200; turn++) {
-                int which = random.nextInt(17);
-                int a = number(random);
-                int b = number(random);
-                int c = number(random);
-                long set = set(random);
-                long[] before = state(s);
-                long answer = call(s, which, a, b, c, set);
-                if (isRefusal(which, answer) && !Arrays.equals(before, state(s))) {
-                    wrong++;
-                    System.out.println("call " + which + " with " + a + ", " + b + ", " + c + " was refused but changed something");
-                }
+            Told told = new Told();
+            for (int turn = 0; turn < MOST_CALLS; turn++) {
+                Call call = anyCall(random, told.cells());
+                Due.due(call.promise(), call + " in run " + run + ", call " + turn, call.ask(s), told.call(call));
             }
         }
-        System.out.println(wrong == 0 ? "any calls are borne" : wrong + " refusals changed something");
-        if (wrong != 0) {
-            System.exit(1);
-        }
+        Due.end("any calls answer as due");
     }
 }
