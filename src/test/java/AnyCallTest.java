@@ -32,24 +32,29 @@ public final class AnyCallTest {
         return random.nextInt(10) == 0 ? ends[random.nextInt(ends.length)] : random.nextLong() & every;
     }
 
-    private static Call anyCall(Random random, int cells) {
+    private static Call anyCall(Random random, Told told) {
         String name = NAMES[random.nextInt(NAMES.length)];
-        int cell = near(random, 0, cells - 1);
+        int cell = near(random, 0, told.cells() - 1);
+        int x = near(random, 0, told.wide() - 1);
+        int y = near(random, 0, told.high() - 1);
         switch (name) {
             case "box": return Call.of(name, near(random, 1, 4), near(random, 1, 4), near(random, 1, 4));
             case "hold": return Call.of(name, cell, near(random, 0, 2));
             case "price": return Call.of(name, cell, near(random, -20, 20));
             case "set": return Call.of(name, near(random, 0, 6), near(random, 0, 9));
-            case "cost": return Call.of(name, near(random, 0, 2), cell, cell + near(random, -4, 4));
+            case "cost":
+                // Products of two small numbers: a layer has up to 4 x 4 CELLS.
+                int apart = near(random, -4, 4) * (1 + random.nextInt(4));
+                return Call.of(name, near(random, 0, 2), cell, cell + apart);
             case "skin":
             case "all":
-            case "right": return Call.ofSet(name, set(random, cells));
+            case "right": return Call.ofSet(name, set(random, told.cells()));
             case "film": return Call.of(name, near(random, 0, 1));
             case "room": return Call.of(name, near(random, -60, 60) / (1 + random.nextInt(8)), near(random, 0, 1));
             case "net": return Call.of(name, near(random, 2, 8), near(random, 2, 8));
-            case "lift": return Call.of(name, near(random, 0, 4), near(random, 0, 4), near(random, -100, 100));
-            case "pin": return Call.ofPin(near(random, 0, 4), near(random, 0, 4), random.nextBoolean());
-            case "height": return Call.of(name, near(random, 0, 4), near(random, 0, 4));
+            case "lift": return Call.of(name, x, y, near(random, -100, 100));
+            case "pin": return Call.ofPin(x, y, random.nextBoolean());
+            case "height": return Call.of(name, x, y);
             case "rounds": return Call.of(name, near(random, 1, 50) / (1 + random.nextInt(40)));
             case "count": return Call.of(name, near(random, 0, 7));
             default: return Call.of(name);
@@ -62,7 +67,7 @@ public final class AnyCallTest {
             SkinBox s = new SkinBox();
             Told told = new Told();
             for (int turn = 0; turn < MOST_CALLS; turn++) {
-                Call call = anyCall(random, told.cells());
+                Call call = anyCall(random, told);
                 Due.due(call.promise(), call + " in run " + run + ", call " + turn, call.ask(s), told.call(call));
             }
         }

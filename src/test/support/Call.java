@@ -1,5 +1,10 @@
+import java.util.List;
+
 /** One call of the face with its numbers: those that it does not take are left out of what it prints. */
 record Call(String name, int a, int b, int c, long set, boolean is) {
+    /** All calls, in the order of the promises that tell of them. */
+    static final List<String> NAMES = List.of("box", "hold", "price", "set", "cost", "skin", "all", "right", "least",
+            "film", "room", "many", "net", "lift", "pin", "height", "drawn", "slack", "rounds", "count", "trace");
 
     static Call of(String name) {
         return new Call(name, 0, 0, 0, 0, false);
@@ -54,9 +59,7 @@ record Call(String name, int a, int b, int c, long set, boolean is) {
 
     /** The number of the promise that tells of this call. */
     int promise() {
-        String[] names = {"box", "hold", "price", "set", "cost", "skin", "all", "right", "least", "film", "room", "many",
-            "net", "lift", "pin", "height", "drawn", "slack", "rounds", "count", "trace"};
-        return 2 + java.util.List.of(names).indexOf(name);
+        return 2 + NAMES.indexOf(name);
     }
 
     @Override

@@ -44,6 +44,14 @@ final class Told {
         return box.cells();
     }
 
+    int wide() {
+        return net.wide();
+    }
+
+    int high() {
+        return net.high();
+    }
+
     private long[] find(int rise) {
         return box.free() <= 9 ? box.tryAll(rise) : box.byLayers(rise);
     }
